@@ -1,9 +1,18 @@
-/** Counts the answers of a test program that are not the due ones, prints them, and ends it with exit code 1 if there was one. */
+/** What the test programs share: answers that are not as due are printed, and the program then ends with exit code 1. */
 final class Check {
     private static int asked = 0;
     private static int wrong = 0;
 
     private Check() {
+    }
+
+    /** A new kernel in which process 0 has made tags of these kinds. */
+    static LabelKernel withTags(int... kinds) {
+        LabelKernel k = new LabelKernel();
+        for (int kind : kinds) {
+            k.tag(0, kind);
+        }
+        return k;
     }
 
     static void due(String call, long got, long want) {

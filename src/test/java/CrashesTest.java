@@ -9,6 +9,7 @@ public final class CrashesTest {
         promise23Boundary();
         promise23WaitsForEntries();
         promise23StartsAnew();
+        promise23EndsAll();
         promise24();
         promise24Entries();
         Check.end();
@@ -131,6 +132,24 @@ public final class CrashesTest {
             Check.due("23: its queue is new", k.port(3, 3), 0);
             Check.due("23: the file", k.object(0, 1, 4), n == 0 ? 0 : 3);
         }
+    }
+
+    private static void promise23EndsAll() {
+        LabelKernel k = new LabelKernel();
+        for (int p = 1; p < 24; p++) {
+            k.spawn(0, 0, 0, 0, 0);
+        }
+        for (int e = 0; e < 40; e++) {
+            k.endpoint(e % 24, 0, 0);
+        }
+        k.crash(0);
+        Check.due("23: by the last process", k.file(23, 0, 0, 0), CRASHED);
+        Check.due("23: one process is left", k.count(1), 1);
+        Check.due("23: the last ended", k.told(23, 0), UNKNOWN);
+        Check.due("23: no endpoint is left", k.count(2), 0);
+        Check.due("23: the last is closed", k.port(39, 0), UNKNOWN);
+        Check.due("23: no process can be made any more", k.spawn(0, 0, 0, 0, 0), FULL);
+        Check.due("23: nor an endpoint", k.endpoint(0, 0, 0), FULL);
     }
 
     private static void promise24() {

@@ -18,16 +18,8 @@ public final class EndpointsTest {
         Check.end();
     }
 
-    private static LabelKernel withTags(int... kinds) {
-        LabelKernel k = new LabelKernel();
-        for (int kind : kinds) {
-            k.tag(0, kind);
-        }
-        return k;
-    }
-
     private static void promise9() {
-        LabelKernel k = withTags(SECRET, SEAL, OWN);
+        LabelKernel k = Check.withTags(SECRET, SEAL, OWN);
         k.spawn(0, 1, 0, 4, 0);
         Check.due("9: of none", k.endpoint(2, 8, 0), UNKNOWN);
         Check.due("9: secrets outside", k.endpoint(0, 8, 0), OUTSIDE);
@@ -48,7 +40,7 @@ public final class EndpointsTest {
     }
 
     private static void promise9Full() {
-        LabelKernel k = withTags(OWN);
+        LabelKernel k = Check.withTags(OWN);
         k.spawn(0, 0, 0, 0, 0);
         for (int e = 0; e < 40; e++) {
             Check.due("9: endpoint " + e, k.endpoint(e % 2, 0, 0), e);
@@ -57,14 +49,24 @@ public final class EndpointsTest {
         Check.due("9: denied ahead of full", k.endpoint(1, 1, 0), DENIED);
         Check.due("9: outside ahead of full", k.endpoint(1, 2, 0), OUTSIDE);
         Check.due("9: unknown ahead of full", k.endpoint(2, 0, 0), UNKNOWN);
+        Check.due("9: 40 are open", k.count(2), 40);
+        Check.due("9: half of them are 1's", k.told(1, 5), 20);
+        Check.due("9: the last is 1's", k.port(39, 0), 1);
+        for (int e = 1; e < 39; e += 2) {
+            k.close(1, e);
+        }
+        k.tag(1, SECRET);
+        k.drop(1, 1, 2);
+        Check.due("9: the last binds its process", k.label(1, 0, 2), DENIED);
         k.close(1, 39);
+        Check.due("9: when it is closed, no more", k.label(1, 0, 2), 0);
         Check.due("9: those that were closed count", k.endpoint(0, 0, 0), FULL);
         Check.due("9: to the last one", k.send(0, 0, 38, 1, 0, 0), 1);
         Check.due("9: it is there", k.port(38, 3), 1);
     }
 
     private static void promise10() {
-        LabelKernel k = withTags(OWN);
+        LabelKernel k = Check.withTags(OWN);
         k.spawn(0, 0, 0, 0, 0);
         k.endpoint(0, 0, 0);
         k.endpoint(1, 0, 0);
@@ -89,7 +91,7 @@ public final class EndpointsTest {
     }
 
     private static void promise11() {
-        LabelKernel k = withTags(SECRET, SEAL, OWN);
+        LabelKernel k = Check.withTags(SECRET, SEAL, OWN);
         k.spawn(0, 0, 0, 4, 5);
         k.endpoint(0, 0, 0);
         k.endpoint(1, 1, 4);
@@ -112,7 +114,7 @@ public final class EndpointsTest {
     }
 
     private static void promise12Refusals() {
-        LabelKernel k = withTags(OWN, OWN, SECRET, SEAL);
+        LabelKernel k = Check.withTags(OWN, OWN, SECRET, SEAL);
         k.spawn(0, 0, 0, 1, 2);
         k.endpoint(0, 0, 0);
         k.endpoint(1, 0, 0);
@@ -140,7 +142,7 @@ public final class EndpointsTest {
     }
 
     private static void promise12Flow() {
-        LabelKernel k = withTags(OWN, OWN);
+        LabelKernel k = Check.withTags(OWN, OWN);
         int[][] labels = {{0, 0}, {1, 0}, {3, 0}, {2, 0}, {0, 1}, {0, 3}, {1, 1}};
         for (int[] label : labels) {
             k.endpoint(0, label[0], label[1]);
@@ -159,7 +161,7 @@ public final class EndpointsTest {
             }
         }
         Check.due("12: labels do not change", k.told(0, 0) + k.told(0, 1), 0);
-        LabelKernel j = withTags(SECRET);
+        LabelKernel j = Check.withTags(SECRET);
         j.spawn(0, 1, 0, 0, 1);
         j.endpoint(0, 0, 0);
         j.endpoint(1, 0, 0);
@@ -171,7 +173,7 @@ public final class EndpointsTest {
     }
 
     private static void promise12Queue() {
-        LabelKernel k = withTags();
+        LabelKernel k = Check.withTags();
         k.spawn(0, 0, 0, 0, 0);
         k.endpoint(0, 0, 0);
         k.endpoint(1, 0, 0);
@@ -195,7 +197,7 @@ public final class EndpointsTest {
     }
 
     private static void promise13() {
-        LabelKernel k = withTags(OWN, OWN, OWN);
+        LabelKernel k = Check.withTags(OWN, OWN, OWN);
         k.spawn(0, 0, 0, 1, 0);
         k.endpoint(0, 0, 0);
         k.endpoint(1, 0, 0);
@@ -218,12 +220,23 @@ public final class EndpointsTest {
         Check.due("13: plus stays", k.told(1, 2), 3);
         Check.due("13: minus has both", k.told(1, 3), 5);
         Check.due("13: none is left", k.receive(1, 1), 0);
-        Check.due("13: what it owns it can use", k.label(1, 1, 0), 0);
+        k.send(0, 0, 1, 7, 4, 0);
+        k.send(0, 0, 1, 8, 2, 1);
+        k.send(0, 0, 1, 9, 1, 6);
+        int[][] due = {{7, 4, 0}, {8, 2, 1}, {9, 1, 6}};
+        for (int[] message : due) {
+            k.receive(1, 1);
+            for (int what = 0; what < 3; what++) {
+                Check.due("13: in its place is " + message[0], k.message(1, what), message[what]);
+            }
+        }
+        Check.due("13: what it owns it can use", k.label(1, 1, 4), 0);
+        Check.due("13: and put back", k.label(1, 1, 0), 4);
         Check.due("13: and hand on", k.spawn(1, 0, 0, 2, 4), 2);
     }
 
     private static void promise14() {
-        LabelKernel k = withTags(OWN, OWN);
+        LabelKernel k = Check.withTags(OWN, OWN);
         k.spawn(0, 0, 0, 0, 0);
         k.endpoint(0, 0, 0);
         k.endpoint(1, 0, 0);

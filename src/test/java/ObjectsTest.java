@@ -26,16 +26,8 @@ public final class ObjectsTest {
         Check.end();
     }
 
-    private static LabelKernel withTags(int... kinds) {
-        LabelKernel k = new LabelKernel();
-        for (int kind : kinds) {
-            k.tag(0, kind);
-        }
-        return k;
-    }
-
     private static void promise15Refusals() {
-        LabelKernel k = withTags(OWN);
+        LabelKernel k = Check.withTags(OWN);
         k.file(0, 0, 0, 0);
         Check.due("15: by none", k.container(1, 0, 0, 0, 0, 0), UNKNOWN);
         Check.due("15: in none", k.container(0, 2, 0, 0, 0, 0), UNKNOWN);
@@ -70,7 +62,7 @@ public final class ObjectsTest {
     }
 
     private static void promise15Labels() {
-        LabelKernel k = withTags(OWN, OWN);
+        LabelKernel k = Check.withTags(OWN, OWN);
         Check.due("15: a secret one", k.container(0, 0, 1, 0, 100, 20), 1);
         Check.due("15: a sealed one in an unsealed one", k.container(0, 0, 0, 1, 0, 0), DENIED);
         Check.due("15: in one that it can't read", k.container(0, 1, 3, 0, 0, 0), DENIED);
@@ -89,7 +81,7 @@ public final class ObjectsTest {
     }
 
     private static void promise15Room() {
-        LabelKernel k = withTags();
+        LabelKernel k = Check.withTags();
         Check.due("15: outer", k.container(0, 0, 0, 0, 50, 10), 1);
         Check.due("15: 0 has less blocks", k.object(0, 0, 5), 150);
         Check.due("15: 0 has less objects", k.object(0, 0, 6), 39);
@@ -112,7 +104,7 @@ public final class ObjectsTest {
     }
 
     private static void promise16() {
-        LabelKernel k = withTags(SECRET, SEAL, OWN);
+        LabelKernel k = Check.withTags(SECRET, SEAL, OWN);
         k.container(0, 0, 4, 0, 5, 3);
         Check.due("16: by none", k.file(1, 0, 8, 0), UNKNOWN);
         Check.due("16: in none", k.file(0, 2, 8, 0), UNKNOWN);
@@ -150,7 +142,7 @@ public final class ObjectsTest {
     }
 
     private static void promise16Full() {
-        LabelKernel k = withTags(OWN);
+        LabelKernel k = Check.withTags(OWN);
         for (int o = 1; o <= 50; o++) {
             Check.due("16: file " + o, k.file(0, 0, 0, 0), o);
         }
@@ -172,10 +164,14 @@ public final class ObjectsTest {
         k.crash(NONE);
         Check.due("16: the last can be written", k.write(0, 59, 0, 7), 1);
         Check.due("16: and read", k.read(0, 59, 0), 7);
+        Check.due("16: its block is taken", k.object(0, 0, 5), 199);
+        Check.due("17: the last can be removed", k.remove(0, 59), 1);
+        Check.due("17: is no more", k.object(0, 59, 0), UNKNOWN);
+        Check.due("17: entries", k.count(4), 59 * 3 + 10 * 2 + 2 + 2);
     }
 
     private static void promise17() {
-        LabelKernel k = withTags(OWN);
+        LabelKernel k = Check.withTags(OWN);
         Check.due("17: container 0", k.remove(0, 0), DENIED);
         Check.due("17: none", k.remove(0, 1), UNKNOWN);
         Check.due("17: by none", k.remove(1, 0), UNKNOWN);
@@ -206,7 +202,7 @@ public final class ObjectsTest {
     }
 
     private static void promise17Trees() {
-        LabelKernel k = withTags();
+        LabelKernel k = Check.withTags();
         k.container(0, 0, 0, 0, 50, 30);
         k.container(0, 0, 0, 0, 50, 10);
         k.container(0, 1, 0, 0, 20, 10);
@@ -230,7 +226,7 @@ public final class ObjectsTest {
         for (int o : new int[] {0, 2, 4, 8}) {
             Check.due("17: still there is " + o, k.object(0, o, 1), 0);
         }
-        LabelKernel deep = withTags();
+        LabelKernel deep = Check.withTags();
         for (int depth = 0; depth < 49; depth++) {
             Check.due("17: depth " + depth, deep.container(0, depth, 0, 0, 0, 49 - depth), depth + 1);
         }
@@ -241,7 +237,7 @@ public final class ObjectsTest {
     }
 
     private static void promise18() {
-        LabelKernel k = withTags(OWN, OWN);
+        LabelKernel k = Check.withTags(OWN, OWN);
         k.file(0, 0, 0, 0);
         Check.due("18: by none", k.write(1, 1, 0, 5), UNKNOWN);
         Check.due("18: none", k.write(0, 2, 0, 5), UNKNOWN);
@@ -282,7 +278,7 @@ public final class ObjectsTest {
     }
 
     private static void promise18Blocks() {
-        LabelKernel k = withTags();
+        LabelKernel k = Check.withTags();
         k.container(0, 0, 0, 0, 2, 3);
         k.file(0, 1, 0, 0);
         k.file(0, 1, 0, 0);
@@ -304,7 +300,7 @@ public final class ObjectsTest {
         Check.due("18: but its fifth", k.write(0, 3, 4, 9), FULL);
         k.remove(0, 3);
         Check.due("18: with the block of the other", k.write(0, 2, 4, 4), 1);
-        LabelKernel j = withTags();
+        LabelKernel j = Check.withTags();
         j.file(0, 0, 0, 0);
         for (int i = 0; i < 32; i++) {
             Check.due("18: number " + i, j.write(0, 1, i, i * i), 1);
@@ -317,7 +313,7 @@ public final class ObjectsTest {
     }
 
     private static void promise18Blind() {
-        LabelKernel k = withTags(SECRET);
+        LabelKernel k = Check.withTags(SECRET);
         k.container(0, 0, 0, 0, 1, 2);
         k.file(0, 1, 1, 0);
         k.crash(0);
@@ -346,7 +342,7 @@ public final class ObjectsTest {
     }
 
     private static void promise19() {
-        LabelKernel k = withTags(OWN);
+        LabelKernel k = Check.withTags(OWN);
         k.file(0, 0, 0, 0);
         Check.due("19: by none", k.append(1, 1, 0, 5), UNKNOWN);
         Check.due("19: none", k.append(0, 2, 0, 5), UNKNOWN);
@@ -384,7 +380,7 @@ public final class ObjectsTest {
     }
 
     private static void promise19Blocks() {
-        LabelKernel k = withTags();
+        LabelKernel k = Check.withTags();
         k.container(0, 0, 0, 0, 3, 2);
         k.file(0, 1, 0, 0);
         k.file(0, 1, 0, 0);
@@ -401,7 +397,7 @@ public final class ObjectsTest {
     }
 
     private static void promise19Blind() {
-        LabelKernel k = withTags(OWN);
+        LabelKernel k = Check.withTags(OWN);
         k.container(0, 0, 0, 0, 9, 2);
         k.file(0, 1, 1, 0);
         k.container(0, 1, 0, 0, 1, 0);
@@ -420,7 +416,7 @@ public final class ObjectsTest {
         k.label(0, 0, 1);
         Check.due("19: 32 numbers", k.object(0, 2, 4), 32);
         Check.due("19: the last", k.read(0, 2, 31), 60);
-        LabelKernel j = withTags(SECRET);
+        LabelKernel j = Check.withTags(SECRET);
         j.container(0, 0, 0, 0, 1, 1);
         j.file(0, 1, 1, 0);
         Check.due("19: blind, two blocks of one", j.append(0, 2, 5, 1), 1);
@@ -435,7 +431,7 @@ public final class ObjectsTest {
     }
 
     private static void promise20() {
-        LabelKernel k = withTags(OWN);
+        LabelKernel k = Check.withTags(OWN);
         k.file(0, 0, 1, 0);
         k.file(0, 0, 0, 0);
         k.append(0, 2, 3, DENIED);
@@ -456,13 +452,16 @@ public final class ObjectsTest {
         k.label(0, 0, 0);
         k.label(0, 1, 1);
         Check.due("20: by one that is sealed", k.read(0, 2, 0), DENIED);
+        k.label(0, 0, 1);
+        Check.due("20: secrets are no seals", k.read(0, 1, 0), DENIED);
+        k.label(0, 0, 0);
         k.label(0, 1, 0);
         k.remove(0, 2);
         Check.due("20: one that was removed", k.read(0, 2, 0), UNKNOWN);
     }
 
     private static void promise21() {
-        LabelKernel k = withTags(OWN, OWN);
+        LabelKernel k = Check.withTags(OWN, OWN);
         k.container(0, 0, 3, 0, 10, 5);
         k.label(0, 0, 3);
         k.container(0, 1, 3, 0, 2, 1);
@@ -488,7 +487,7 @@ public final class ObjectsTest {
     }
 
     private static void promise21Hidden() {
-        LabelKernel k = withTags(OWN, SEAL);
+        LabelKernel k = Check.withTags(OWN, SEAL);
         k.container(0, 0, 1, 0, 10, 5);
         k.label(0, 0, 1);
         k.file(0, 1, 1, 0);
@@ -506,7 +505,7 @@ public final class ObjectsTest {
         Check.due("21: sealed, container 0's container", k.object(0, 0, 3), NONE);
         Check.due("21: sealed, container 0's blocks", k.object(0, 0, 5), DENIED);
         Check.due("21: sealed, what stands in 0", k.object(0, 1, 0), DENIED);
-        LabelKernel j = withTags(OWN);
+        LabelKernel j = Check.withTags(OWN);
         j.container(0, 0, 0, 0, 10, 5);
         j.file(0, 1, 1, 0);
         Check.due("21: a file's label", j.object(0, 2, 1), 1);
@@ -517,7 +516,7 @@ public final class ObjectsTest {
     }
 
     private static void promise22() {
-        LabelKernel k = withTags(OWN);
+        LabelKernel k = Check.withTags(OWN);
         k.container(0, 0, 0, 0, 10, 5);
         k.file(0, 0, 1, 0);
         k.file(0, 1, 0, 0);

@@ -21,14 +21,6 @@ public final class TagsAndProcessesTest {
         Check.end();
     }
 
-    private static LabelKernel withTags(int... kinds) {
-        LabelKernel k = new LabelKernel();
-        for (int kind : kinds) {
-            k.tag(0, kind);
-        }
-        return k;
-    }
-
     private static void promise1() {
         LabelKernel k = new LabelKernel();
         int[] counts = {0, 1, 0, 1, 0, 0, 0};
@@ -106,7 +98,7 @@ public final class TagsAndProcessesTest {
     }
 
     private static void promise3() {
-        LabelKernel k = withTags(SECRET, SEAL, SECRET, SEAL, OWN);
+        LabelKernel k = Check.withTags(SECRET, SEAL, SECRET, SEAL, OWN);
         Check.due("3: plus", k.everybody(0), 5);
         Check.due("3: minus", k.everybody(1), 10);
         Check.due("3: -1", k.everybody(-1), OUTSIDE);
@@ -116,7 +108,7 @@ public final class TagsAndProcessesTest {
     }
 
     private static void promise4() {
-        LabelKernel k = withTags(SECRET, SEAL, OWN, OWN);
+        LabelKernel k = Check.withTags(SECRET, SEAL, OWN, OWN);
         k.spawn(0, 5, 2, 4, 9);
         int[] due = {5, 2, 4, 9, 0, 0, 1};
         for (int what = 0; what < due.length; what++) {
@@ -143,7 +135,7 @@ public final class TagsAndProcessesTest {
     }
 
     private static void promise5() {
-        LabelKernel k = withTags(SECRET, SEAL, OWN);
+        LabelKernel k = Check.withTags(SECRET, SEAL, OWN);
         k.spawn(0, 0, 0, 0, 0);
         Check.due("5: of none", k.label(2, 2, 8), UNKNOWN);
         Check.due("5: what -1", k.label(0, -1, 0), OUTSIDE);
@@ -175,7 +167,7 @@ public final class TagsAndProcessesTest {
     }
 
     private static void promise5Endpoints() {
-        LabelKernel k = withTags(SECRET, SECRET, OWN);
+        LabelKernel k = Check.withTags(SECRET, SECRET, OWN);
         k.spawn(0, 0, 0, 0, 0);
         Check.due("5: an endpoint", k.endpoint(1, 0, 0), 0);
         Check.due("5: left behind by secrets", k.label(1, 0, 1), DENIED);
@@ -186,10 +178,24 @@ public final class TagsAndProcessesTest {
         Check.due("5: where it owns both", k.label(0, 0, 6), 1);
         k.close(1, 0);
         Check.due("5: a closed one binds none", k.label(1, 0, 1), 0);
+        k.spawn(0, 0, 0, 4, 4);
+        Check.due("5: a secret for good", k.label(2, 0, 1), 0);
+        Check.due("5: an endpoint with it", k.endpoint(2, 1, 0), 2);
+        Check.due("5: and more than it", k.endpoint(2, 5, 0), 3);
+        Check.due("5: what both have is no difference", k.label(2, 0, 5), 1);
+        k.tag(2, OWN);
+        k.drop(2, 1, 8);
+        Check.due("5: what it can add, but not take", k.label(2, 0, 13), DENIED);
+        k.close(2, 2);
+        k.close(2, 3);
+        Check.due("5: without endpoints", k.label(2, 0, 13), 5);
+        k.drop(2, 0, 4);
+        Check.due("5: an endpoint with what it can take, but not add", k.endpoint(2, 13, 0), 4);
+        Check.due("5: can't be left behind, either", k.label(2, 0, 9), DENIED);
     }
 
     private static void promise6() {
-        LabelKernel k = withTags(OWN, OWN, OWN, SECRET);
+        LabelKernel k = Check.withTags(OWN, OWN, OWN, SECRET);
         Check.due("6: of none", k.drop(1, 2, 16), UNKNOWN);
         Check.due("6: what -1", k.drop(0, -1, 0), OUTSIDE);
         Check.due("6: what 2", k.drop(0, 2, 0), OUTSIDE);
@@ -200,6 +206,7 @@ public final class TagsAndProcessesTest {
         Check.due("6: not of minus", k.told(0, 3), 15);
         Check.due("6: of minus", k.drop(0, 1, 12), 3);
         Check.due("6: minus", k.told(0, 3), 3);
+        Check.due("6: not of plus", k.told(0, 2), 5);
         Check.due("6: what it does not own", k.drop(0, 0, 10), 5);
         Check.due("6: nothing", k.drop(0, 0, 0), 5);
         Check.due("6: everybody's stays", k.everybody(0), 8);
@@ -212,7 +219,7 @@ public final class TagsAndProcessesTest {
     }
 
     private static void promise6Endpoints() {
-        LabelKernel k = withTags(OWN, OWN, SECRET);
+        LabelKernel k = Check.withTags(OWN, OWN, SECRET);
         k.endpoint(0, 1, 0);
         k.endpoint(0, 0, 2);
         k.endpoint(0, 4, 0);
@@ -232,7 +239,7 @@ public final class TagsAndProcessesTest {
     }
 
     private static void promise7() {
-        LabelKernel k = withTags(SECRET, SEAL, OWN, OWN);
+        LabelKernel k = Check.withTags(SECRET, SEAL, OWN, OWN);
         Check.due("7: by none", k.spawn(1, 16, 0, 0, 0), UNKNOWN);
         Check.due("7: secrets outside", k.spawn(0, 16, 0, 0, 0), OUTSIDE);
         Check.due("7: seals outside", k.spawn(0, 0, 16, 0, 0), OUTSIDE);
@@ -266,14 +273,22 @@ public final class TagsAndProcessesTest {
         Check.due("7: by one that ended", k.spawn(1, 5, 6, 0, 0), UNKNOWN);
         Check.due("7: its number is not given again", k.spawn(0, 0, 0, 0, 0), 6);
         Check.due("7: processes", k.count(1), 6);
+        LabelKernel j = Check.withTags(SECRET, SEAL);
+        j.label(0, 1, 2);
+        j.spawn(0, 1, 2, 0, 0);
+        Check.due("7: secrets and seals are changed from their own", j.spawn(1, 1, 2, 0, 0), 2);
+        Check.due("7: secrets are taken from secrets", j.spawn(1, 0, 2, 0, 0), DENIED);
+        Check.due("7: seals are taken from seals", j.spawn(1, 1, 0, 0, 0), 3);
+        Check.due("7: seals are added to seals", j.spawn(1, 3, 2, 0, 0), DENIED);
     }
 
     private static void promise7Full() {
-        LabelKernel k = withTags(OWN);
+        LabelKernel k = Check.withTags(OWN);
         for (int p = 1; p < 24; p++) {
             Check.due("7: process " + p, k.spawn(p - 1, 0, 0, 0, 0), p);
         }
         Check.due("7: process 24", k.spawn(0, 0, 0, 0, 0), FULL);
+        Check.due("7: 24 processes", k.count(1), 24);
         Check.due("7: denied ahead of full", k.spawn(23, 1, 0, 0, 0), DENIED);
         Check.due("7: outside ahead of full", k.spawn(23, 2, 0, 0, 0), OUTSIDE);
         Check.due("7: unknown ahead of full", k.spawn(24, 0, 0, 0, 0), UNKNOWN);
@@ -283,7 +298,7 @@ public final class TagsAndProcessesTest {
     }
 
     private static void promise8() {
-        LabelKernel k = withTags(OWN);
+        LabelKernel k = Check.withTags(OWN);
         Check.due("8: process 0", k.exit(0), DENIED);
         Check.due("8: none", k.exit(1), UNKNOWN);
         Check.due("8: -1", k.exit(-1), UNKNOWN);
@@ -310,5 +325,14 @@ public final class TagsAndProcessesTest {
         Check.due("8: lost", k.count(6), 1);
         Check.due("8: one without endpoints", k.spawn(0, 0, 0, 0, 0), 3);
         Check.due("8: had none open", k.exit(3), 0);
+        LabelKernel j = Check.withTags();
+        j.spawn(0, 0, 0, 0, 0);
+        for (int e = 0; e < 40; e++) {
+            j.endpoint(1, 0, 0);
+        }
+        Check.due("8: all 40 endpoints", j.exit(1), 40);
+        Check.due("8: the first is closed", j.port(0, 0), UNKNOWN);
+        Check.due("8: the last is closed", j.port(39, 0), UNKNOWN);
+        Check.due("8: none is open", j.count(2), 0);
     }
 }
