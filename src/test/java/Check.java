@@ -1,7 +1,13 @@
+import java.util.function.IntUnaryOperator;
+
 /** What the test programs share: answers that are not as due are printed, and the program then ends with exit code 1. */
 final class Check {
+    static final int MIN = Integer.MIN_VALUE, MAX = Integer.MAX_VALUE;
+    static final int SECRET = 0, SEAL = 1, OWN = 2;
+
     private static int asked = 0;
     private static int wrong = 0;
+    private static String sentence = "";
 
     private Check() {
     }
@@ -15,11 +21,30 @@ final class Check {
         return k;
     }
 
+    /** The words of the document that the answers behind this are due to. */
+    static void sentence(String words) {
+        sentence = "\"" + words + "\": ";
+    }
+
     static void due(String call, long got, long want) {
         asked++;
         if (got != want) {
             wrong++;
-            System.out.println(call + " answered " + got + ", due is " + want);
+            System.out.println(sentence + call + " answered " + got + ", due is " + want);
+        }
+    }
+
+    /** The call's answers for 0, 1, 2 and so on. */
+    static void dueFromZero(String call, IntUnaryOperator got, int... want) {
+        for (int i = 0; i < want.length; i++) {
+            due(call + " with " + i, got.applyAsInt(i), want[i]);
+        }
+    }
+
+    /** The call's answer for each of these numbers. */
+    static void dueForEach(String call, int want, IntUnaryOperator got, int... numbers) {
+        for (int number : numbers) {
+            due(call + " with " + number, got.applyAsInt(number), want);
         }
     }
 
@@ -27,7 +52,7 @@ final class Check {
         asked++;
         if (!so) {
             wrong++;
-            System.out.println("does not hold: " + what);
+            System.out.println(sentence + "does not hold: " + what);
         }
     }
 
