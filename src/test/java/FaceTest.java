@@ -14,11 +14,12 @@ public final class FaceTest {
         "send 6", "receive 2", "message 2", "container 6", "file 4", "remove 2", "write 4", "append 4", "read 3",
         "object 3", "list 3", "crash 1", "count 1"};
 
-    public static void main(String[] args) {
+    public static void main(String[] args) throws ReflectiveOperationException {
         constants();
         methods();
         classes();
         calledBeyondItsEnd();
+        calledWithAnything();
         Check.end();
     }
 
@@ -108,5 +109,31 @@ public final class FaceTest {
             answered += k.count(4) >= 0 ? 1 : 0;
         }
         Check.due("calls beyond the 512th", answered, 2000);
+    }
+
+    /** No call may throw, for any arguments in any state: an exception ends this program. */
+    private static void calledWithAnything() throws ReflectiveOperationException {
+        int[] odd = {0, Integer.MAX_VALUE, -1, 60, 1, Integer.MIN_VALUE, 2, 31, 40, 24, 59, 9, 39, 200, 32, 5};
+        for (Method method : LabelKernel.class.getDeclaredMethods()) {
+            if (!Modifier.isPublic(method.getModifiers())) {
+                continue;
+            }
+            int arity = method.getParameterCount();
+            int values = arity < 4 ? odd.length : 11 - arity;
+            int choices = (int) Math.pow(values, arity);
+            LabelKernel busy = World.busy();
+            LabelKernel spent = World.spent();
+            Object[] args = new Object[arity];
+            for (int choice = 0; choice < choices; choice++) {
+                int rest = choice;
+                for (int a = 0; a < arity; a++) {
+                    args[a] = odd[rest % values];
+                    rest /= values;
+                }
+                method.invoke(busy, args);
+                method.invoke(spent, args);
+            }
+            Check.holds(method + " with anything", choices >= odd.length);
+        }
     }
 }
